@@ -224,7 +224,7 @@ public final class StrawDraws {
         if (!now.hasServer(server) || !now.hasServer(other)) {
             return NO_SUCH;
         }
-        int gone = 1 << server | 1 << other;
+        int gone = (1 << server) | (1 << other);
         int lost = 0;
         for (int row = 0; row < now.objects; row++) {
             if ((places.serversOf(row) & ~gone) == 0) {
@@ -782,7 +782,7 @@ public final class StrawDraws {
 
         // What is left over by 2147483648 are the lowest 31 bits, which wrapping round leaves right.
         private static int stir(int x) {
-            return x * 1103515245 + 12345 & 0x7fffffff;
+            return (x * 1103515245 + 12345) & 0x7fffffff;
         }
     }
 
@@ -846,7 +846,7 @@ public final class StrawDraws {
         /** The caller has looked that there is room. */
         void append(long characters, int count) {
             for (int back = 0; back < count; back++) {
-                signs[length + count - 1 - back] = (char) (characters >>> 8 * back & 255);
+                signs[length + count - 1 - back] = (char) ((characters >>> (8 * back)) & 255);
             }
             length += count;
         }

@@ -2,7 +2,7 @@ import java.util.Random;
 
 /** Runs of random calls, the same ones each time, beside the model. */
 public final class RandomTest {
-    private static final int RUNS = 1500;
+    private static final int RUNS = 600;
     private static final int CALLS = 512;
 
     private final Due due;
