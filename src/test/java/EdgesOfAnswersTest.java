@@ -421,6 +421,8 @@ public final class EdgesOfAnswersTest {
         StrawDraws x = pinnedApart(8, 13, 16, 16);
         // 21000 / 2: 8000 - 10500 and 13000 - 10500.
         due.is("count(7), the second one", x.count(7), 1);
+        x.movesIf(1, 0);
+        due.is("count(7), after movesIf()", x.count(7), 1);
         x.weigh(0, 4);
         // 4200 and 16800.
         due.is("count(7), the first one", x.count(7), 0);
@@ -430,6 +432,8 @@ public final class EdgesOfAnswersTest {
         x.down(0, false);
         x.weigh(0, 0);
         due.is("count(7), the first one weighs nothing", x.count(7), 1);
+        // 10000 - 7000 and 2000 - 5000: the first one has the larger share, too.
+        due.is("count(7), the larger share", pinnedApart(10, 2, 7, 5).count(7), 0);
         StrawDraws y = Houses.apart(16, 1);
         y.store(1);
         due.is("count(7), the load and not the weight", y.count(7), 1);
@@ -657,6 +661,20 @@ public final class EdgesOfAnswersTest {
         // With the weight 5 the shares are 40000, 56000 and 24000, and each load is 40000.
         due.is("bestWeight(0, 0), three", x.bestWeight(0, 0), 5);
         due.is("bestWeight(0, 1), three", x.bestWeight(0, 1), 32000);
+        // Here the loads are other ones with other weights.
+        StrawDraws y = Houses.small();
+        int[][] best = {{1, 4572}, {1, 7111}, {7, 5715}, {6, 5999}};
+        for (int server = 0; server < 4; server++) {
+            due.is("bestWeight(" + server + ", 0)", y.bestWeight(server, 0), best[server][0]);
+            due.is("bestWeight(" + server + ", 1)", y.bestWeight(server, 1), best[server][1]);
+            StrawDraws weighed = Houses.small();
+            weighed.weigh(server, best[server][0]);
+            int sum = 0;
+            for (int each = 0; each < 4; each++) {
+                sum += Math.abs(1000 * weighed.ofServer(each, 3) - weighed.ofServer(each, 4));
+            }
+            due.is("the sum when it is weighed so", sum, best[server][1]);
+        }
     }
 
     private static void bestLowest(Due due) {

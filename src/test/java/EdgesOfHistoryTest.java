@@ -88,6 +88,12 @@ public final class EdgesOfHistoryTest {
             due.is("undo() of change " + i, x.undo(), 5);
             same(due, "all is as before change " + i, Looks.state(x), before);
         }
+        StrawDraws y = Houses.small();
+        y.set(SALT, 999);
+        due.is("set(COPIES, 1)", y.set(COPIES, 1), 5);
+        due.is("move(2, 0)", y.move(2, 0), 3);
+        due.is("undo(), five other moves", y.undo(), 5);
+        due.moves(y, Due.row(1, 2, 0), Due.row(2, 3, 1), Due.row(9999, 1, 3));
     }
 
     private static void undoNotThePad(Due due) {
@@ -388,6 +394,12 @@ public final class EdgesOfHistoryTest {
         x.restore(1);
         x.down(0, false);
         due.moves(x, Due.row(5, NONE, 0));
+        StrawDraws y = Houses.small();
+        y.set(SALT, 999);
+        y.save(1);
+        due.is("set(COPIES, 1)", y.set(COPIES, 1), 5);
+        y.restore(1);
+        due.moves(y, Due.row(1, 2, 0), Due.row(2, 3, 1), Due.row(9999, 1, 3));
     }
 
     private static void restoreIsAChange(Due due) {

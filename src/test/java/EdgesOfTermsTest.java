@@ -313,6 +313,15 @@ public final class EdgesOfTermsTest {
         due.is("ofServer(1, 2), down", x.ofServer(1, 2), 1);
         due.is("down(1, false)", x.down(1, false), 0);
         due.is("ofServer(1, 2), up again", x.ofServer(1, 2), 0);
+        // A number that was gone, with a server that was down, is built anew.
+        StrawDraws y = new StrawDraws();
+        y.save(0);
+        y.server(0, 4);
+        y.down(0, true);
+        y.restore(0);
+        due.is("server(1, 1)", y.server(1, 1), 0);
+        due.is("ofServer(0, 2), up at first", y.ofServer(0, 2), 0);
+        due.is("count(5), it takes part", y.count(5), 1);
     }
 
     private static void strawsOfAWeight(Due due) {

@@ -840,18 +840,21 @@ public final class PromisesTest {
         return due;
     }
 
-    /** Which one of 12 servers has the longest straw. */
-    private static int longestStraw(StrawDraws x, int object) {
-        int best = NONE;
-        int longest = -1;
+    /** Another SALT, and another weight for the lower six of 12 servers and for the higher six. */
+    private static StrawDraws weighed(StrawDraws x, int salt, int lower, int higher) {
+        x.set(SALT, salt);
         for (int server = 0; server < 12; server++) {
-            int straw = x.straw(server, object);
-            if (straw > longest) {
-                best = server;
-                longest = straw;
+            x.weigh(server, server < 6 ? lower : higher);
+        }
+        return x;
+    }
+
+    private static void samePlaces(Due due, StrawDraws x, StrawDraws made) {
+        for (int object = 0; object < 40; object++) {
+            for (int copy = 0; copy < 3; copy++) {
+                due.is("place(" + object + ", " + copy + ")", x.place(object, copy), made.place(object, copy));
             }
         }
-        return best;
     }
 
     private static Due restore() {
@@ -892,24 +895,13 @@ public final class PromisesTest {
         due.is("ofServer(0, 2)", x.ofServer(0, 2), 1);
         due.is("restore(0) again", x.restore(0), 5);
         // Several things are other ones at once after it, and each straw is a new one.
-        StrawDraws y = Houses.full();
-        y.set(SALT, 5);
-        for (int server = 6; server < 12; server++) {
-            y.weigh(server, 16);
-        }
+        StrawDraws y = weighed(Houses.full(), 5, 3, 16);
         y.save(0);
-        y.set(SALT, 6);
-        for (int server = 0; server < 12; server++) {
-            y.weigh(server, server < 6 ? 2 : 1);
-        }
+        weighed(y, 6, 2, 1);
         y.restore(0);
-        for (int object = 0; object < 40; object += 3) {
-            due.is("place(" + object + ", 0)", y.place(object, 0), longestStraw(y, object));
-        }
+        samePlaces(due, y, weighed(Houses.full(), 5, 3, 16));
         y.undo();
-        for (int object = 0; object < 40; object += 3) {
-            due.is("place(" + object + ", 0)", y.place(object, 0), longestStraw(y, object));
-        }
+        samePlaces(due, y, weighed(Houses.full(), 6, 2, 1));
         due.is("restore(1), nothing saved", x.restore(1), NOT_POSSIBLE);
         for (int value : FAR) {
             due.is("restore(" + value + ")", x.restore(value), BAD_VALUE);
